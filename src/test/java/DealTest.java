@@ -76,7 +76,7 @@ public final class DealTest {
         CardWorkshop x = Check.compiled("D13;P1:w=1,z=2,+5,n,s>t;E0;");
         x.deal(3, 0);
         x.act(0);
-        x.act(0);
+        check.due("seat 1 is on turn", x.look(5), 1);
         x.put(0, 5);
         check.due("deal again", x.deal(3, 0), 3);
         for (int k = 0; k < 6; k++) {

@@ -109,6 +109,11 @@ public final class PlayTest {
         check.due("suit of the other's pile", worth("uq"), 1);
         check.due("rank of none", worth("rg"), -1);
         check.due("suit of none", worth("up"), -1);
+        CardWorkshop suits = Check.dealt("D41;P1:s>t,w=rt,x=ut;E0;");
+        Check.put(suits, 2, 3);
+        suits.act(0);
+        check.due("the only rank", suits.counter(0), 0);
+        check.due("the suit of a card with the only rank", suits.counter(1), 3);
         CardWorkshop x = Check.dealt("D34;M1:w=rc,x=uc;E0;");
         for (int card = 0; card < 12; card++) {
             x.put(card, 0);
@@ -140,6 +145,15 @@ public final class PlayTest {
         x.act(0);
         check.row("an empty stock gives none", x, 1, 0);
         check.row("what was 4 went on", x, 2, 4);
+        CardWorkshop second = Check.dealt("D16;P!w:n,w=1;Pw:w=rh+10*rg,x=rp+10*rq,y=rs+10*rt;E0;");
+        for (int place = 0; place < 6; place++) {
+            second.put(place, place);
+        }
+        second.act(0);
+        second.act(0);
+        check.due("hands as seat 1 names them", second.counter(0), 1);
+        check.due("piles as seat 1 names them", second.counter(1), 45);
+        check.due("stock and table are the same for it", second.counter(2), 32);
         CardWorkshop same = Check.dealt("D13;P1:s>s;E0;");
         Check.put(same, 2, 2, 0, 1);
         same.act(0);

@@ -42,6 +42,10 @@ public final class SolveTest {
         CardWorkshop ties = Check.dealt("D15;P!w:w=1,+1;P!w:w=1,+2;P!w:w=1,+2;E0;");
         check.due("a tie", ties.solve(4), 2);
         check.due("the first of the tie", ties.best(), 1);
+        CardWorkshop other = Check.dealt("D15;Px=0:x=1,n;Px=1&!w:w=1,+1;Px=1&!w:w=1,+2;Px=1&!w:w=1,+2;E0;");
+        other.act(0);
+        check.due("a tie of seat 1", other.solve(4), -2);
+        check.due("the first of the tie", other.best(), 1);
         CardWorkshop below = Check.dealt("D15;P!w:w=1,+0-5;P!w:w=1,+0-3;P!w:w=1,+0-3;E0;");
         check.due("all below 0", below.solve(2000), -3);
         check.due("the greatest of them", below.best(), 1);

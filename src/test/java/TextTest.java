@@ -85,5 +85,7 @@ public final class TextTest {
         check.due("what was told stays", x.best(), 0);
         Check.write(x, "D11;E0;");
         check.due("nothing is left of the old text", x.compile(), 2);
+        Check.write(x, "D11;E0");
+        check.noArgument("nothing is left of a text that was read", x::compile);
     }
 }
