@@ -53,8 +53,9 @@ public final class DealTest {
         int[] rounds = {0, 1, 2, 3, 7, 8, 12, 13, Integer.MAX_VALUE};
         String[] texts = {"D11;E0;", "D12;E0;", "D35;E0;", "D46;E0;"};
         for (String text : texts) {
-            CardWorkshop x = Check.compiled(text);
             for (int seed : seeds) {
+                // one workshop for each seed, as nothing is promised behind 512 calls
+                CardWorkshop x = Check.compiled(text);
                 for (int n : rounds) {
                     int[] row = deck(x.look(2), seed);
                     int given = (int) Math.min(2L * n, row.length);

@@ -3,7 +3,10 @@ import java.util.Random;
 /** All promises: random runs of calls, each answer held against the model's. */
 public final class RandomRunsTest {
     private static final int RUNS = 6000;
+    /** Nothing is promised behind so many calls. */
     private static final int CALLS = 512;
+    /** A game in one go: wipe, 31 parts of a text (one character too long at most), compile and deal. */
+    private static final int LONGEST_STEP = 34;
 
     private static int wrong = 0;
     private static long calls = 0;
@@ -65,7 +68,7 @@ public final class RandomRunsTest {
     private void play() {
         int start = wrong;
         int left = CALLS;
-        while (left > 0 && wrong == start) {
+        while (left >= LONGEST_STEP && wrong == start) {
             left -= random.nextInt(25) == 0 ? game() : call();
         }
     }

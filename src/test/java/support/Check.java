@@ -1,17 +1,61 @@
+import java.io.IOException;
+import java.nio.file.Files;
+import java.nio.file.Path;
+
 /** Counts the answers that are not as due, and knows the short ways to a workshop in a state. */
 final class Check {
     interface Call {
         void run();
     }
 
+    private static final Path DOCUMENT = Path.of("../shared/DOC.md");
+
     private int done = 0;
     private int wrong = 0;
+    private int sentences = 0;
+    private String heading = "";
+    private int doneBefore = 0;
+
+    /** What is checked from here on keeps this sentence of the document. */
+    void sentence(int promise, String words) {
+        endSentence();
+        sentences++;
+        heading = "promise " + promise + " '" + words + "': ";
+        // a sentence that no longer stands there would be tested for nothing
+        due("stands in the document", document().contains(words), true);
+        doneBefore = done;
+    }
+
+    private void endSentence() {
+        if (sentences > 0 && done == doneBefore) {
+            fail("nothing was checked");
+        }
+    }
+
+    private static String document() {
+        try {
+            return Files.readString(DOCUMENT);
+        } catch (IOException e) {
+            throw new IllegalStateException("the document is not at " + DOCUMENT, e);
+        }
+    }
+
+    private void fail(String words) {
+        wrong++;
+        System.out.println(heading + words);
+    }
 
     void due(String what, long got, long want) {
         done++;
         if (got != want) {
-            wrong++;
-            System.out.println(what + " answered " + got + ", due is " + want);
+            fail(what + " answered " + got + ", due is " + want);
+        }
+    }
+
+    void due(String what, String got, String want) {
+        done++;
+        if (!got.equals(want)) {
+            fail(what + " answered " + got + ", due is " + want);
         }
     }
 
@@ -29,8 +73,7 @@ final class Check {
             got = e.getClass();
         }
         if (got != want) {
-            wrong++;
-            System.out.println(what + " threw " + got + ", due is " + want);
+            fail(what + " threw " + got + ", due is " + want);
         }
     }
 
@@ -85,10 +128,47 @@ final class Check {
         noIndex(what + ": instruction -1", () -> x.code(-1, false));
     }
 
+    /** A text is a game with just as many instructions. */
+    void game(String text, int instructions) {
+        CardWorkshop x = new CardWorkshop();
+        due("typed: " + text, write(x, text), true);
+        due("a game: " + text, told(x::compile), "" + instructions);
+    }
+
+    void game(String text) {
+        CardWorkshop x = new CardWorkshop();
+        due("typed: " + text, write(x, text), true);
+        due("a game: " + text, told(x::compile), "" + x.look(1));
+    }
+
+    void noGame(String text) {
+        CardWorkshop x = new CardWorkshop();
+        due("typed: " + text, write(x, text), true);
+        due("no game: " + text, told(x::compile), "throws.IllegalArgumentException");
+        due("the text stays: " + text, x.look(0), text.length());
+    }
+
     void end() {
+        endSentence();
+        if (sentences > 0) {
+            System.out.println(sentences + " sentences of the document");
+        }
         System.out.println(wrong == 0 ? done + " answers, all as due" : wrong + " of " + done + " answers are not as due");
         if (wrong != 0) {
             System.exit(1);
+        }
+    }
+
+    interface Answer {
+        Object get();
+    }
+
+    /** What a call answers, or throws, as a text. */
+    static String told(Answer call) {
+        try {
+            return "" + call.get();
+        } catch (RuntimeException e) {
+            return "throws." + e.getClass().getSimpleName();
         }
     }
 
