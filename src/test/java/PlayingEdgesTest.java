@@ -36,6 +36,8 @@ public final class PlayingEdgesTest {
         lookBeforeADealing();
         lookOther();
         lookLeastAndMost();
+        none();
+        the512thCall();
         check.end();
     }
 
@@ -654,5 +656,26 @@ public final class PlayingEdgesTest {
         for (int which = 0; which < 8; which++) {
             check.due("behind 60 moves: look(" + which + ")", x.look(which), most[which]);
         }
+    }
+
+    private static void none() {
+        check.sentence(9, "`NONE = -1`: There is none.");
+        check.due("NONE", CardWorkshop.NONE, -1);
+        CardWorkshop x = Check.dealt("D11;P1:;E0;");
+        check.due("no card", x.move(0, true), -1);
+        check.due("a card that is there", x.card(2, 0), 0);
+        check.due("one that is not", x.card(2, 1), -1);
+    }
+
+    private static void the512thCall() {
+        check.sentence(10, "An object is used for at most 512 calls after it has been made");
+        CardWorkshop x = Check.dealt("D12;P1:w=w+1,n;E0;");
+        int calls = 3 + 1 + 1;
+        for (; calls < 511; calls += 2) {
+            check.due("call " + calls, x.act(0), 1);
+            check.due("call " + (calls + 1), x.undo(), true);
+        }
+        check.due("calls made", calls, 511);
+        check.due("call 512", x.act(0), 1);
     }
 }

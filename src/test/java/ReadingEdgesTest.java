@@ -203,6 +203,12 @@ public final class ReadingEdgesTest {
                 }
             }
         }
+        CardWorkshop x = Check.compiled("D11;" + repeat("P1:;", 8) + "E0;");
+        Check.write(x, "D11;E0;");
+        check.due("none behind eight", x.compile(), 2);
+        check.due("none is left of the eight", x.look(3), 0);
+        x.deal(0, 0);
+        check.due("nor a move of theirs", x.moves(), 0);
         check.noGame("D11;X1:;E0;");
         check.noGame("D11;m1:;E0;");
         check.noGame("D11;E0;P1:;");
