@@ -218,7 +218,7 @@ public final class CardWorkshop {
         if (!dealt || place < 0 || place >= PLACES) {
             return NONE;
         }
-        return i == -1 ? table.sizes[place] : table.cardAt(place, i);
+        return i == -1 ? table.sizeOf(place) : table.cardAt(place, i);
     }
 
     public int seen(int seat, int place, int i) {
@@ -537,6 +537,9 @@ public final class CardWorkshop {
 
         /** Puts a card that lies nowhere on top of a place. */
         private void lay(int card, int place) {
+            if (card < 0 || card >= CARD_LIMIT || place < 0 || place >= PLACES) {
+                return;
+            }
             places[card] = place;
             below[card] = tops[place];
             tops[place] = card;
@@ -545,27 +548,57 @@ public final class CardWorkshop {
 
         /** Takes a card out of its place and puts it on top of one. */
         private void raise(int card, int place) {
-            int from = places[card];
-            if (from >= 0) {
-                sizes[from]--;
-                if (tops[from] == card) {
-                    tops[from] = below[card];
-                }
+            takeOut(card);
+            lay(card, place);
+        }
+
+        private void takeOut(int card) {
+            int from = card < 0 || card >= CARD_LIMIT ? NONE : places[card];
+            if (from < 0 || from >= PLACES) {
+                return;
+            }
+            sizes[from]--;
+            if (tops[from] == card) {
+                tops[from] = below[card];
             }
             for (int above = 0; above < CARD_LIMIT; above++) {
                 if (below[above] == card) {
                     below[above] = below[card];
                 }
             }
-            lay(card, place);
+        }
+
+        private int sizeOf(int place) {
+            return place < 0 || place >= PLACES ? 0 : sizes[place];
+        }
+
+        private int topOf(int place) {
+            return place < 0 || place >= PLACES ? NONE : tops[place];
+        }
+
+        private int counterAt(int k) {
+            return k < 0 || k >= COUNTERS ? 0 : counters[k];
+        }
+
+        private void setCounter(int k, int value) {
+            if (k >= 0 && k < COUNTERS) {
+                counters[k] = value;
+            }
+        }
+
+        private void addScore(int seat, int more) {
+            if (seat >= 0 && seat < SEATS) {
+                scores[seat] += more;
+            }
         }
 
         private int cardAt(int place, int i) {
-            if (i < 0 || i >= sizes[place]) {
+            int size = sizeOf(place);
+            if (i < 0 || i >= size) {
                 return NONE;
             }
-            int found = tops[place];
-            for (int k = sizes[place] - 1; k > i && found >= 0; k--) {
+            int found = topOf(place);
+            for (int k = size - 1; k > i && found >= 0 && found < CARD_LIMIT; k--) {
                 found = below[found];
             }
             return found;
@@ -647,12 +680,12 @@ public final class CardWorkshop {
         private int operand(int operation, int argument, Table table, int seat, int chosen) {
             switch (operation) {
                 case GET:
-                    return table.counters[argument];
+                    return table.counterAt(argument);
                 case COUNT:
-                    return table.sizes[placeOf(argument, seat)];
+                    return table.sizeOf(placeOf(argument, seat));
                 case RANK:
                 case SUIT:
-                    int card = argument == CHOSEN ? chosen : table.tops[placeOf(argument, seat)];
+                    int card = argument == CHOSEN ? chosen : table.topOf(placeOf(argument, seat));
                     if (card < 0 || game.ranks < 1) {
                         return NONE;
                     }
@@ -685,16 +718,16 @@ public final class CardWorkshop {
             switch (operation) {
                 case MOVE:
                     int from = argument / ZONE_STEP;
-                    int card = from == CHOSEN ? chosen : table.tops[placeOf(from, seat)];
+                    int card = from == CHOSEN ? chosen : table.topOf(placeOf(from, seat));
                     if (card >= 0) {
                         table.raise(card, placeOf(argument % ZONE_STEP, seat));
                     }
                     break;
                 case SET:
-                    table.counters[argument] = pop();
+                    table.setCounter(argument, pop());
                     break;
                 case SCORE:
-                    table.scores[seat] += pop();
+                    table.addScore(seat, pop());
                     break;
                 default:
                     table.turn = 1 - seat;
